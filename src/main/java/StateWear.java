@@ -287,7 +287,7 @@ public final class StateWear {
         }
 
         private boolean isUseful(int state, int name) {
-            return state >= 0 && state < states && isName(name);
+            return state >= 0 && state < states && name >= 0 && name < NAMES;
         }
 
         void setUse(int state, int name, int yes, int no) {
@@ -865,11 +865,10 @@ public final class StateWear {
             Arrays.fill(table, 0);
         }
 
-        /** Whether it is new. */
+        /** Whether it is new; there must be room for it. */
         boolean add(long scene) {
-            if (size >= scenes.length) grow();
             int at = find(scene);
-            if (table[at] != 0) return false;
+            if (table[at] != 0 || size >= scenes.length) return false;
             scenes[size] = scene;
             nextCallers[size] = NONE;
             size++;
@@ -888,7 +887,9 @@ public final class StateWear {
             return at;
         }
 
-        private void grow() {
+        /** For one scene more. */
+        void makeRoom() {
+            if (size < scenes.length) return;
             scenes = Arrays.copyOf(scenes, 2 * size);
             nextCallers = Arrays.copyOf(nextCallers, 2 * size);
             table = new int[4 * size];
@@ -945,7 +946,9 @@ public final class StateWear {
                 if (spread < newsCount) {
                     spreadNews(book, news[spread++]);
                 } else if (visited < pool.size) {
-                    visit(book, visited++);
+                    int called = visit(book, visited);
+                    if (called != NONE) comeBackAsKnown(book, visited, called);
+                    visited++;
                 } else {
                     break;
                 }
@@ -971,6 +974,7 @@ public final class StateWear {
 
         /** The scene at hand MAY BE in this CASE. */
         private void keep(int number) {
+            pool.makeRoom();
             if (!pool.add(Scene.packWithCase(scene.pack(), number))) return;
             cases[number].size++;
             if (cases[number].size > MAY_BE_IN_A_CASE) spent = true;
@@ -982,27 +986,28 @@ public final class StateWear {
             scene.unpack(packed);
         }
 
-        private void visit(Book book, int index) {
+        /** Finds what comes next to a scene; if that is a call, the number of the CASE that it calls, else NONE. */
+        private int visit(Book book, int index) {
             long packed = pool.scenes[index];
             int number = Scene.caseIn(packed);
             load(packed);
             Routine body = book.routines[scene.routine];
             if (scene.place >= body.length) {
                 endCase(book, number, false);
-                return;
+                return NONE;
             }
             int wrong = scene.wrongAhead(book);
             if (wrong != RIGHT) {
                 addWrong(scene.routine, scene.place, wrong);
-            } else if (isCall(body.sorts[scene.place])) {
-                visitCall(book, index);
-            } else {
-                boolean asks = scene.asksAhead(book);
-                goOn(book, number, true);
-                if (!asks) return;
-                load(packed);
-                goOn(book, number, false);
+                return NONE;
             }
+            if (isCall(body.sorts[scene.place])) return callFrom(body, index);
+            boolean asks = scene.asksAhead(book);
+            goOn(book, number, true);
+            if (!asks) return NONE;
+            load(packed);
+            goOn(book, number, false);
+            return NONE;
         }
 
         private void goOn(Book book, int number, boolean answer) {
@@ -1013,14 +1018,18 @@ public final class StateWear {
             }
         }
 
-        private void visitCall(Book book, int index) {
-            Routine body = book.routines[scene.routine];
+        private int callFrom(Routine body, int index) {
             int v = body.seconds[scene.place];
             int how = body.sorts[scene.place] == GIVE ? BY_GIVE : BY_LEND;
             int called = caseFor(body.firsts[scene.place], how, scene.kindOf(v), scene.stateOf(v));
-            if (called == NONE) return;
+            if (called == NONE) return NONE;
             pool.nextCallers[index] = cases[called].firstCaller;
             cases[called].firstCaller = index;
+            return called;
+        }
+
+        /** From a call, on all ways in which the called CASE is known to end so far. */
+        private void comeBackAsKnown(Book book, int index, int called) {
             int paper = cases[called].paper;
             for (int bit = 0; bit < 2 * FAILED_BITS; bit++) {
                 if ((paper >> bit & 1) != 0) comeBack(book, index, bit);
