@@ -10,6 +10,7 @@ public final class JudgeEdgesTest {
         noRoutineZero();
         openSomewhere();
         calledIsNotThere();
+        calledByTheFirstOrTheLast();
         noStaysJudged();
         emptyProgram();
         failedIsNotWrong();
@@ -24,6 +25,7 @@ public final class JudgeEdgesTest {
         wrongWhich();
         wrongInOrder();
         wrongEachOnce();
+        wrongAtTheFirstAndLastPlaces();
         mayWhere();
         mayBehindTheLast();
         mayAllBits();
@@ -33,9 +35,12 @@ public final class JudgeEdgesTest {
         paperAllStates();
         paperGiven();
         paperOfWhatNeverEnds();
+        paperOfAllCasesInAllWays();
+        paperForLaterCallers();
         paperOfTheBeginning();
         countWhich();
         countBeforeAndAfter();
+        countEachOnce();
         DUE.end();
     }
 
@@ -118,6 +123,35 @@ public final class JudgeEdgesTest {
         due("ROUTINE 0 itself calls", x.judge(), NO);
         x.cut(0);
         due("it calls no more", x.judge(), 1);
+    }
+
+    /** The call is the first STATEMENT of a ROUTINE, or the 24th. */
+    private static void calledByTheFirstOrTheLast() {
+        for (int place : new int[] {0, 23}) {
+            for (int r : new int[] {0, 5}) {
+                StateWear x = new StateWear();
+                x.routine();
+                if (r == 0) {
+                    writeCallAt(x, 0, place, 5);
+                    for (int more = 1; more < 6; more++) {
+                        due("judge", x.judge(), NO);
+                        due("run", x.run(0, 0), NO);
+                        due("breaks", x.breaks(0), NO);
+                        x.routine();
+                    }
+                    dueWrongs("all are there", x, new int[] {0, place, 1});
+                    continue;
+                }
+                for (int more = 1; more < 6; more++) x.routine();
+                writeCallAt(x, r, place, 5);
+                dueWrongs("never called", x);
+            }
+        }
+    }
+
+    private static void writeCallAt(StateWear x, int routine, int place, int called) {
+        for (int i = 0; i < place; i++) Sorts.write(x, routine, Sorts.DROP, 0);
+        Sorts.write(x, routine, Sorts.LEND, called, 0);
     }
 
     /** "What was judged stays so till the next judge() that is not NO." */
@@ -407,6 +441,32 @@ public final class JudgeEdgesTest {
         due("they are not counted twice", x.count(2), 2);
     }
 
+    private static void wrongAtTheFirstAndLastPlaces() {
+        StateWear x = Sorts.withKind(6);
+        Sorts.write(x, 0, Sorts.USE, 4, 0);
+        dueWrongs("the first STATEMENT of the first ROUTINE", x, new int[] {0, 0, 1});
+        x.cut(0);
+        x.ends(0, 4);
+        Sorts.write(x, 0, Sorts.MAKE, 0, 0);
+        for (int r : new int[] {1, 4, 5}) {
+            Sorts.write(x, 0, Sorts.IF, Sorts.LEND, r, 0, Sorts.END);
+            Sorts.write(x, r, Sorts.MAKE, 4, 0);
+            for (int i = 1; i < 23; i++) Sorts.write(x, r, Sorts.DROP, 3);
+            Sorts.write(x, r, Sorts.NAME, 3, 4);
+        }
+        for (int i = 10; i < 24; i++) Sorts.write(x, 0, Sorts.DROP, 3);
+        dueWrongs("behind the 24th STATEMENT", x, new int[] {0, 24, 5}, new int[] {1, 24, 5}, new int[] {4, 24, 5},
+                new int[] {5, 24, 5});
+        x.cut(5);
+        Sorts.write(x, 5, Sorts.DROP, 4);
+        x.cut(0);
+        Sorts.write(x, 0, Sorts.USE, 1, 0);
+        x.cut(1);
+        Sorts.write(x, 1, Sorts.FAIL);
+        dueWrongs("at the 24th STATEMENT", x, new int[] {0, 23, 1}, new int[] {1, 24, 5}, new int[] {4, 24, 5},
+                new int[] {5, 23, 5});
+    }
+
     private static void mayWhere() {
         EDGES.badOutside("may(n, 0, 0) of two", Samples::busy, 0, 1, (y, n) -> y.may(n, 0, 0));
         EDGES.badOutside("may(n, 0, 0) of six", Samples::full, 0, 5, (y, n) -> y.may(n, 0, 0));
@@ -609,6 +669,51 @@ public final class JudgeEdgesTest {
         due("it ends in no way", x.paper(1, false, 0, 0), 0);
     }
 
+    /** 39 called CASES, each of which ends in all six STATES, well and FAILED. */
+    private static void paperOfAllCasesInAllWays() {
+        StateWear x = new StateWear();
+        Samples.ring(x, 6);
+        Samples.ring(x, 6);
+        for (int r = 0; r < 6; r++) x.routine();
+        Sorts.write(x, 0, Sorts.MAKE, 0, 0, Sorts.WHILE, Sorts.USE, 0, 0, Sorts.END);
+        for (int r = 1; r < 6; r++) {
+            Sorts.write(x, 0, Sorts.IF, Sorts.LEND, r, 0, Sorts.END);
+            Sorts.write(x, r, Sorts.WHILE, Sorts.USE, 0, 0, Sorts.END, Sorts.IF, Sorts.FAIL, Sorts.END);
+        }
+        Sorts.write(x, 1, Sorts.MAKE, 0, 1, Sorts.WHILE, Sorts.USE, 0, 0, Sorts.END, Sorts.LEND, 2, 0);
+        for (int r = 3; r < 6; r++) Sorts.write(x, 2, Sorts.MAKE, 1, 1, Sorts.LEND, r, 1);
+        due("judge", x.judge(), 1);
+        due("the beginning, and 30, 6, 3 called by ROUTINES 0, 1, 2", x.count(3), 40);
+        for (int r = 1; r < 6; r++) {
+            for (int s = 0; s < 6; s++) due("paper of " + r + " in " + s, x.paper(r, false, 0, s), 63 | 63 << 8);
+        }
+        for (int s = 0; s < 6; s++) due("KIND 1 in " + s, x.paper(2, false, 1, s), 63 | 63 << 8);
+        for (int r = 3; r < 6; r++) due("KIND 1 in " + r, x.paper(r, false, 1, 0), 63 | 63 << 8);
+        due("behind the last", x.may(0, 19, 0), 63);
+    }
+
+    /** A call of a CASE that is known to end already comes back in all its ways too. */
+    private static void paperForLaterCallers() {
+        StateWear x = new StateWear();
+        Samples.ring(x, 6);
+        x.routine();
+        x.routine();
+        Sorts.write(x, 0, Sorts.MAKE, 0, 0, Sorts.MAKE, 1, 0, Sorts.TRY, Sorts.TRY, Sorts.LEND, 1, 0, Sorts.LAST);
+        for (int i = 0; i < 8; i++) Sorts.write(x, 0, Sorts.DROP, 4);
+        Sorts.write(x, 0, Sorts.LEND, 1, 1, Sorts.END, Sorts.LAST, Sorts.END);
+        Sorts.write(x, 1, Sorts.WHILE, Sorts.USE, 0, 0, Sorts.END, Sorts.IF, Sorts.FAIL, Sorts.END);
+        due("judge", x.judge(), 1);
+        due("CASES", x.count(3), 2);
+        due("the first call's THING at the outer LAST", x.may(0, 16, 0), 63);
+        due("the later call's THING at the outer LAST", x.may(0, 16, 1), 63);
+        due("at the inner END", x.may(0, 15, 1), 63);
+        Sorts.write(x, 1, Sorts.FAIL);
+        due("judge", x.judge(), 1);
+        due("FAILED alone", x.paper(1, false, 0, 0), 63 << 8);
+        due("the later call comes to the outer LAST", x.may(0, 16, 1), 63);
+        due("not to the inner END", x.may(0, 15, 1), 0);
+    }
+
     /** "or ROUTINE 0 as the program begins": a CASE of its own */
     private static void paperOfTheBeginning() {
         StateWear x = Sorts.withKind(1);
@@ -653,5 +758,22 @@ public final class JudgeEdgesTest {
         int[] spent = {3, 2, 0, 0, 0};
         y.judge();
         for (int what = 0; what < 5; what++) due("SPENT: count " + what, y.count(what), spent[what]);
+    }
+
+    /** What MAY BE counts once, also where it is come to again behind hundreds of others. */
+    private static void countEachOnce() {
+        StateWear x = new StateWear();
+        Samples.ring(x, 6);
+        x.routine();
+        Sorts.write(x, 0, Sorts.WHILE);
+        for (int v = 0; v < 3; v++) Sorts.write(x, 0, Sorts.MAKE, v, 0, Sorts.WHILE, Sorts.USE, v, 0, Sorts.END);
+        for (int v = 0; v < 3; v++) Sorts.write(x, 0, Sorts.DROP, v);
+        Sorts.write(x, 0, Sorts.END);
+        due("judge", x.judge(), 1);
+        int made = 1 + 3 * 6 + 6 + 3 * 36 + 36 + 3 * 216;
+        due("WHILE, what is made, what is dropped, END, behind", x.count(4), 1 + made + 216 + 36 + 6 + 1 + 1);
+        due("ahead of WHILE nothing is named", x.may(0, 0, 0), NOTHING_NAMED);
+        due("judge again", x.judge(), 1);
+        due("as many", x.count(4), 1 + made + 216 + 36 + 6 + 1 + 1);
     }
 }

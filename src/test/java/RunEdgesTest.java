@@ -506,12 +506,11 @@ public final class RunEdgesTest {
             }
         }
         for (int r = 0; r < x.count(1); r++) {
+            int[] sorts = new int[25];
             int many = 0;
-            while (x.told(r, many, 0) != NONE) many++;
+            while ((sorts[many] = x.told(r, many, 0)) != NONE) many++;
             h = 31 * h + many;
-            for (int i = 0; i < many; i++) {
-                for (int what = 0; what < 3; what++) h = 31 * h + x.told(r, i, what);
-            }
+            for (int i = 0; i < many; i++) h = 31 * (31 * (31 * h + sorts[i]) + x.told(r, i, 1)) + x.told(r, i, 2);
         }
         return h;
     }

@@ -39,6 +39,12 @@ public final class TermEdgesTest {
         lentStateWithoutName();
         kindsAreToldApart();
         casesByKindStateAndHow();
+        kindOfWhatWasHandedOn();
+        fiveThings();
+        triesInSixBlocks();
+        sixSecondBlocks();
+        waysAreNotKeptFromBefore();
+        cutsLeaveNothingBehind();
         DUE.end();
     }
 
@@ -564,5 +570,126 @@ public final class TermEdgesTest {
         due("(1, 1) given", x.paper(1, true, 0, 1), 1);
         due("(2, 1)", x.paper(2, false, 0, 1), NONE);
         due("(1, 0) given", x.paper(1, true, 0, 0), NONE);
+    }
+
+    /** A THING that is lent or given keeps its KIND: KIND 5 has another USE, and another END, than KIND 0. */
+    private static void kindOfWhatWasHandedOn() {
+        for (int sort : new int[] {Sorts.LEND, Sorts.GIVE}) {
+            StateWear x = door(1, 3);
+            for (int k = 1; k < 6; k++) x.kind(2, 2);
+            x.use(5, 0, 7, 1, NONE);
+            Sorts.write(x, 0, Sorts.MAKE, 3, 5, sort, 1, 3, Sorts.MAKE, 3, 0);
+            Sorts.write(x, 1, Sorts.LEND, 2, 0);
+            Sorts.write(x, 2, Sorts.NAME, 1, 0, Sorts.USE, 1, 7, Sorts.DROP, 1);
+            dueRight("KIND 5 by " + sort, x, 0);
+            due("called with KIND 5", x.paper(1, sort == Sorts.GIVE, 5, 0), sort == Sorts.GIVE ? 1 : 2);
+            due("lent on with KIND 5", x.paper(2, false, 5, 0), 2);
+            due("not with KIND 0", x.paper(2, false, 0, 0), NONE);
+            x.cut(2);
+            x.cut(2);
+            Sorts.write(x, 2, Sorts.USE, 1, 0);
+            dueWrong("KIND 0 alone has USE 0", x, 2, 1, 3);
+        }
+    }
+
+    /** As many THINGS as VARIABLES; a new one in the place of each leaves the others as they are. */
+    private static void fiveThings() {
+        for (int v = 0; v < 5; v++) {
+            StateWear x = new StateWear();
+            Samples.ring(x, 6);
+            x.routine();
+            for (int w = 0; w < 5; w++) Sorts.write(x, 0, Sorts.MAKE, w, 0);
+            for (int w = 0; w < 5; w++) Sorts.write(x, 0, Sorts.USE, w, 0);
+            Sorts.write(x, 0, Sorts.MAKE, v, 0, Sorts.USE, (v + 1) % 5, 0, Sorts.USE, (v + 4) % 5, 0);
+            dueRight("five, and one anew", x, 0);
+            for (int w = 0; w < 5; w++) {
+                boolean neighbour = w == (v + 1) % 5 || w == (v + 4) % 5;
+                due("STATE of " + w, x.may(0, 13, w), w == v ? 1 : neighbour ? 4 : 2);
+                due("its own THING", x.one(0, 13, w, (w + 1) % 5), 0);
+            }
+            due("one at each place", x.count(4), 14);
+        }
+    }
+
+    /** A TRY within up to five other blocks: its second block goes on as its first one went out. */
+    private static void triesInSixBlocks() {
+        for (int depth = 0; depth < 6; depth++) {
+            for (int way : new int[] {Sorts.LEAVE, Sorts.FAIL}) {
+                StateWear x = door(3, 1);
+                for (int i = 0; i < depth; i++) Sorts.write(x, 0, Sorts.IF, Sorts.ELSE);
+                Sorts.write(x, 0, Sorts.TRY, way, Sorts.LAST, Sorts.DROP, 0, Sorts.END);
+                for (int i = 0; i < depth; i++) Sorts.write(x, 0, Sorts.END);
+                due("judge", x.judge(), 1);
+                due("run", x.run(0, 0), way == Sorts.FAIL ? 6 : 0);
+                due("STATEMENTS", x.ended(4), depth + 5);
+                due("at its END", x.may(0, 2 * depth + 4, 0), NOTHING_NAMED);
+                if (depth > 0) due("behind its END nothing", x.may(0, 2 * depth + 5, 0), 0);
+                int behind = way == Sorts.LEAVE || depth > 0 ? 1 : 0;
+                due("by yes each ELSE, and each END but the innermost", x.count(4),
+                        2 * depth + 5 + Math.max(0, depth - 1) + behind);
+            }
+        }
+    }
+
+    /** Six TRYs, each in the second block of the one before: just 24 STATEMENTS. */
+    private static void sixSecondBlocks() {
+        for (int ways = 0; ways < 64; ways++) {
+            StateWear x = door(3, 1);
+            for (int i = 0; i < 6; i++) {
+                Sorts.write(x, 0, Sorts.TRY, (ways >> i & 1) != 0 ? Sorts.FAIL : Sorts.LEAVE, Sorts.LAST);
+            }
+            for (int i = 0; i < 6; i++) Sorts.write(x, 0, Sorts.END);
+            boolean failed = ways >> 5 != 0;
+            dueRight("the innermost tells how it goes on", x, failed ? 6 : 0);
+            due("STATEMENTS", x.ended(4), 19);
+            due("the other ENDS are not come to", x.count(4), failed ? 19 : 20);
+            due("behind the last", x.may(0, 24, 0), failed ? 0 : NOTHING_NAMED);
+        }
+        StateWear x = door(3, 1);
+        Sorts.write(x, 0, Sorts.TRY, Sorts.FAIL, Sorts.LAST);
+        for (int i = 0; i < 5; i++) Sorts.write(x, 0, Sorts.TRY, Sorts.LAST);
+        for (int i = 0; i < 6; i++) Sorts.write(x, 0, Sorts.END);
+        dueRight("the outermost alone FAILS", x, 6);
+        due("STATEMENTS", x.ended(4), 19);
+        due("one at each place, none behind the last", x.count(4), 19);
+    }
+
+    /** A ROUTINE that FAILED out of a second block leaves nothing to the next one that is called, or run. */
+    private static void waysAreNotKeptFromBefore() {
+        StateWear x = program(3, Sorts.MAKE, 0, 0, Sorts.TRY, Sorts.LEND, 1, 0, Sorts.LAST, Sorts.LEND, 2, 0, Sorts.LEAVE,
+                Sorts.END);
+        Sorts.write(x, 1, Sorts.TRY, Sorts.FAIL, Sorts.LAST, Sorts.END);
+        Sorts.write(x, 2, Sorts.TRY, Sorts.LAST, Sorts.END);
+        dueRight("the next call", x, 0);
+        due("the first FAILED", x.paper(1, false, 0, 0), 1 << 8);
+        due("the next ended well", x.paper(2, false, 0, 0), 1);
+        StateWear y = program(3, Sorts.TRY, Sorts.FAIL, Sorts.LAST, Sorts.USE, 0, 0, Sorts.END);
+        dueWrong("WRONG in a second block", y, 0, 3, 1);
+        for (int i = 0; i < 4; i++) y.cut(0);
+        Sorts.write(y, 0, Sorts.LAST, Sorts.END);
+        dueRight("the next run", y, 0);
+    }
+
+    /** What stands where other STATEMENTS were cut goes its own way. */
+    private static void cutsLeaveNothingBehind() {
+        StateWear x = program(3, Sorts.DROP, 0, Sorts.DROP, 0, Sorts.TRY, Sorts.LAST, Sorts.END);
+        for (int i = 0; i < 5; i++) x.cut(0);
+        Sorts.write(x, 0, Sorts.TRY, Sorts.FAIL, Sorts.LAST, Sorts.IF, Sorts.END, Sorts.DROP, 0, Sorts.END);
+        due("judge", x.judge(), 1);
+        due("run", x.run(1, 1), 6);
+        due("TRY FAIL LAST IF END DROP END", x.ended(4), 7);
+        StateWear y = program(3, Sorts.TRY, Sorts.LAST, Sorts.DROP, 0, Sorts.DROP, 0, Sorts.DROP, 0, Sorts.DROP, 0, Sorts.DROP,
+                0, Sorts.END);
+        for (int i = 0; i < 8; i++) y.cut(0);
+        Sorts.write(y, 0, Sorts.TRY, Sorts.IF, Sorts.LEAVE, Sorts.END, Sorts.LAST, Sorts.END);
+        dueRight("on and LEAVE", y, 0);
+        due("both come to one place behind the last", y.count(4), 3 + 0 + 2 + 2 + 1);
+        StateWear z = program(3, Sorts.WHILE, Sorts.END, Sorts.IF, Sorts.ELSE, Sorts.END);
+        for (int i = 0; i < 5; i++) z.cut(0);
+        Sorts.write(z, 0, Sorts.IF, Sorts.END, Sorts.TRY, Sorts.LAST, Sorts.END);
+        dueRight("other blocks in the places", z, 0);
+        due("IF TRY LAST END", z.ended(4), 4);
+        due("run by yes", z.run(1, 1), 0);
+        due("IF END TRY LAST END", z.ended(4), 5);
     }
 }
