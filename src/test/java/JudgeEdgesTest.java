@@ -34,6 +34,7 @@ public final class JudgeEdgesTest {
         paperOfWhich();
         paperAllStates();
         paperGiven();
+        paperGivenByOneThatWasLent();
         paperOfWhatNeverEnds();
         paperOfAllCasesInAllWays();
         paperForLaterCallers();
@@ -650,6 +651,28 @@ public final class JudgeEdgesTest {
         due("FAILED alone", x.paper(1, true, 0, 1), 1 << 8);
     }
 
+    /** "GIVEN: with nothing": whatever was lent to the one that gives */
+    private static void paperGivenByOneThatWasLent() {
+        StateWear x = new StateWear();
+        Samples.ring(x, 6);
+        for (int r = 0; r < 3; r++) x.routine();
+        Sorts.write(x, 0, Sorts.MAKE, 0, 0, Sorts.WHILE, Sorts.USE, 0, 0, Sorts.END, Sorts.LEND, 1, 0);
+        Sorts.write(x, 1, Sorts.MAKE, 1, 0, Sorts.GIVE, 2, 1);
+        due("judge", x.judge(), 1);
+        due("bit 0 alone", x.paper(2, true, 0, 0), 1);
+        due("the beginning, six and one", x.count(3), 8);
+        due("one place in ROUTINE 2", x.count(4), 1 + 4 * 6 + 6 + 6 * 3 + 1);
+        Sorts.write(x, 0, Sorts.GIVE, 2, 0);
+        Sorts.write(x, 2, Sorts.USE, 0, 0, Sorts.FAIL);
+        due("judge", x.judge(), 1);
+        for (int s = 0; s < 6; s++) due("bit 8 alone", x.paper(2, true, 0, s), s == 0 ? 1 << 8 : NONE);
+        while (x.cut(0) > 1) due("cut", x.told(0, 0, 0), Sorts.MAKE);
+        Sorts.write(x, 0, Sorts.USE, 0, 0, Sorts.LEND, 1, 0);
+        due("judge", x.judge(), 1);
+        due("lent in STATE 1 alone, but bit 8 as ever", x.paper(2, true, 0, 0), 1 << 8);
+        due("and what was lent is in STATE 1", x.paper(1, false, 0, 1), 2 << 8);
+    }
+
     private static void paperOfWhatNeverEnds() {
         for (int sort : new int[] {Sorts.LEND, Sorts.GIVE}) {
             StateWear x = Sorts.withKind(2);
@@ -763,17 +786,21 @@ public final class JudgeEdgesTest {
     /** What MAY BE counts once, also where it is come to again behind hundreds of others. */
     private static void countEachOnce() {
         StateWear x = new StateWear();
-        Samples.ring(x, 6);
+        x.kind(6, 63);
+        for (int s = 0; s < 6; s++) x.use(0, s, 0, (s + 1) % 6, s);
         x.routine();
         Sorts.write(x, 0, Sorts.WHILE);
-        for (int v = 0; v < 3; v++) Sorts.write(x, 0, Sorts.MAKE, v, 0, Sorts.WHILE, Sorts.USE, v, 0, Sorts.END);
+        for (int v = 0; v < 3; v++) Sorts.write(x, 0, Sorts.MAKE, v, 0);
+        for (int v = 0; v < 3; v++) {
+            for (int i = 0; i < 4; i++) Sorts.write(x, 0, Sorts.USE, v, 0);
+        }
         for (int v = 0; v < 3; v++) Sorts.write(x, 0, Sorts.DROP, v);
         Sorts.write(x, 0, Sorts.END);
-        due("judge", x.judge(), 1);
-        int made = 1 + 3 * 6 + 6 + 3 * 36 + 36 + 3 * 216;
-        due("WHILE, what is made, what is dropped, END, behind", x.count(4), 1 + made + 216 + 36 + 6 + 1 + 1);
-        due("ahead of WHILE nothing is named", x.may(0, 0, 0), NOTHING_NAMED);
-        due("judge again", x.judge(), 1);
-        due("as many", x.count(4), 1 + made + 216 + 36 + 6 + 1 + 1);
+        int used = (1 + 2 + 3 + 4) * (1 + 5 + 25);
+        for (int round = 0; round < 2; round++) {
+            due("judge", x.judge(), 1);
+            due("WHILE, MAKE, USE, DROP, END and behind it", x.count(4), 1 + 3 + used + 125 + 25 + 5 + 1 + 1);
+            due("ahead of WHILE nothing is named", x.may(0, 0, 0), NOTHING_NAMED);
+        }
     }
 }
