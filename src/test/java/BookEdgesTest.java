@@ -30,8 +30,10 @@ public final class BookEdgesTest {
         fitsByAsking();
         fitsByLikeAnswers();
         fitsByWhatIsComeTo();
+        fitsByEachOnesOwnState();
         partsBeforeAny();
         partsFarAway();
+        partsInTheLastOfAllPairs();
         partsByTheNearest();
         partsOfTheLatest();
         DUE.end();
@@ -423,6 +425,30 @@ public final class BookEdgesTest {
         dueFits("all the ring round", x, NONE);
     }
 
+    /** The pair (2, 1): what k's STATE 1 and p's STATE 2 have is nothing to it. */
+    private static void fitsByEachOnesOwnState() {
+        for (int round = 0; round < 5; round++) {
+            StateWear x = twoKinds(5, 0, 0);
+            x.use(0, 0, 0, 2, NONE);
+            x.use(1, 0, 0, 1, NONE);
+            if (round == 1) x.use(1, 2, 3, 0, NONE);
+            if (round > 1) x.use(0, 1, 3, 4, round == 2 ? 4 : NONE);
+            if (round > 1) x.use(0, 2, 3, 3, round == 3 ? 3 : NONE);
+            if (round > 1) x.use(1, 1, 3, 3, round == 3 ? 3 : NONE);
+            if (round == 4) x.ends(0, 8);
+            if (round == 4) x.ends(1, 8);
+            dueFits("round " + round, x, NONE);
+        }
+        StateWear x = twoKinds(5, 16, 8);
+        x.use(0, 0, 0, 2, NONE);
+        x.use(1, 0, 0, 1, NONE);
+        x.use(0, 2, 3, 0, 4);
+        x.use(1, 1, 3, 4, 3);
+        dueFits("(4, 3) by no, (0, 4) by yes", x, NONE);
+        x.ends(1, 16);
+        dueFits("(0, 4) by yes", x, 2);
+    }
+
     /** "NONE before any" */
     private static void partsBeforeAny() {
         EDGES.changesNothing("parts of a new one", StateWear::new, StateWear::parts, NONE);
@@ -454,6 +480,25 @@ public final class BookEdgesTest {
         x.ends(1, 15);
         due("the other way", x.fits(1, 0), 0);
         due("(4, 5)", x.parts(), 29);
+    }
+
+    /** By NAME 0 k goes on alone, by NAME 1 p: they come to all 36 pairs, to (5, 5) last. */
+    private static void partsInTheLastOfAllPairs() {
+        StateWear x = twoKinds(6, 31, 32);
+        for (int s = 0; s < 6; s++) {
+            x.use(0, s, 0, Math.min(s + 1, 5), NONE);
+            x.use(0, s, 1, s, NONE);
+            x.use(1, s, 0, s, NONE);
+            x.use(1, s, 1, Math.min(s + 1, 5), NONE);
+        }
+        dueFits("(5, 5)", x, 10);
+        x.ends(0, 63);
+        dueFits("none", x, NONE);
+        x.ends(0, 30);
+        dueFits("(0, 5)", x, 5);
+        x.ends(0, 31);
+        x.ends(1, 1);
+        dueFits("(5, 0)", x, 5);
     }
 
     /** "The least number of USES (each with an ANSWER) that come to a pair which parts them" */

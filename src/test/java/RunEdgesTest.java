@@ -11,6 +11,7 @@ public final class RunEdgesTest {
         sixtyAnswers();
         bitZeroFirst();
         whatAsks();
+        whatAsksByKindAndState();
         eachThatIsComeToCounts();
         justFiveHundred();
         fiveHundredInCalls();
@@ -136,6 +137,28 @@ public final class RunEdgesTest {
         int[] quiet = {Sorts.MAKE, 1, 0, Sorts.NAME, 2, 1, Sorts.DROP, 1, Sorts.TRY, Sorts.LAST, Sorts.END, Sorts.LEAVE};
         Sorts.write(x, 0, quiet);
         dueRun("nothing else asks", x, -1L, 60, 0, 0, 8, 0, 8, 1);
+    }
+
+    /** Whether a USE asks lies with the THING that is used there, and with its STATE. */
+    private static void whatAsksByKindAndState() {
+        StateWear x = new StateWear();
+        x.kind(2, 3);
+        x.use(0, 0, 0, 1, NONE);
+        x.use(0, 1, 0, 0, 1);
+        x.kind(2, 3);
+        x.use(1, 0, 0, 1, 0);
+        x.use(1, 1, 0, 0, NONE);
+        x.routine();
+        Sorts.write(x, 0, Sorts.MAKE, 0, 0, Sorts.MAKE, 4, 1, Sorts.USE, 0, 0, Sorts.USE, 4, 0);
+        Sorts.write(x, 0, Sorts.USE, 4, 0, Sorts.USE, 0, 0);
+        dueRun("by yes: of 4, then of 0", x, 3, 2, 0, 0, 6, 2, 6, 1);
+        dueRun("by no: twice of 4, then of 0", x, 0, 0, 0, 0, 6, 3, 6, 1);
+        due("judge", x.judge(), 1);
+        due("0 ahead of the second USE of 4", x.may(0, 4, 0), 2);
+        due("4 there", x.may(0, 4, 4), 3);
+        due("0 behind the last", x.may(0, 6, 0), 3);
+        due("4 behind the last", x.may(0, 6, 4), 3);
+        due("all that MAY BE", x.count(4), 4 + 2 + 2 + 4);
     }
 
     /** "each that is come to counts, ELSE, END, LAST, too" */
